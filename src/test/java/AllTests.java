@@ -1,0 +1,20 @@
+/** Runs every test of the project; the argument is the file of the program. */
+public final class AllTests {
+    private AllTests() {
+    }
+
+    public static void main(String[] arguments) throws Exception {
+        Checks c = new Checks();
+        ExampleTests.run(c);
+        FaceTests.run(c);
+        GraphTests.run(c);
+        PropertyTests.run(c);
+        WalkTests.run(c);
+        PolynomialTests.run(c);
+        RandomRuns.run(c);
+        RoomTests.run(c);
+        LanguageTests.run(c, arguments[0]);
+        System.out.println("project: " + c.passed() + " passed, " + c.failed() + " failed");
+        System.exit(c.failed() == 0 ? 0 : 1);
+    }
+}
