@@ -100,6 +100,10 @@ final class GraphTests {
         c.due("headOf(0)", x.headOf(0), 3);
         c.due("removeEdge(0)", x.removeEdge(0), 0);
         c.due("removeEdge(0)", x.removeEdge(0), -1);
+        c.due("undo()", x.undo(), 7);
+        c.due("edgeCount()", x.edgeCount(), 1);
+        c.due("undo()", x.undo(), 6);
+        c.due("edgeCount()", x.edgeCount(), 2);
         IharaZeta full = Graphs.bundle();
         c.due("removeEdge(8)", full.removeEdge(8), 8);
         c.due("removeEdge(0)", full.removeEdge(0), 7);

@@ -11,6 +11,7 @@ final class PolynomialTests {
         signedCoefficient(c);
         vertexCoefficient(c);
         bassCoefficient(c);
+        queriesInTurn(c);
         zetaCoefficient(c);
         edgeValue(c);
         taylorAtOne(c);
@@ -80,6 +81,27 @@ final class PolynomialTests {
         }
     }
 
+    /** Each query answers for the present graph, whatever was asked before. */
+    private static void queriesInTurn(Checks c) {
+        c.topic("queries in turn");
+        IharaZeta x = Graphs.bundle();
+        for (int round = 0; round < 3; round++) {
+            c.due("bassCoefficient(18) of nine edges", x.bassCoefficient(18), -64);
+            c.due("taylorAtOne(1) of nine edges", x.taylorAtOne(1), 0);
+            c.due("zetaCoefficient(2) of nine edges", x.zetaCoefficient(2), 72);
+            c.due("signedCoefficient(2) of nine edges", x.signedCoefficient(2), -72);
+            c.due("vertexCoefficient(4) of nine edges", x.vertexCoefficient(4), 64);
+            c.due("edgeDegree() of nine edges", x.edgeDegree(), 18);
+            c.due("isBalanced() of nine edges", x.isBalanced(), 1);
+            c.due("configure(3)", x.configure(3), 2);
+            c.due("bassCoefficient(18) without edges", x.bassCoefficient(18), 0);
+            c.due("bassCoefficient(2) without edges", x.bassCoefficient(2), 0);
+            c.due("zetaCoefficient(2) without edges", x.zetaCoefficient(2), 0);
+            c.due("edgeDegree() without edges", x.edgeDegree(), 0);
+            x.undo();
+        }
+    }
+
     private static void zetaCoefficient(Checks c) {
         c.topic("promise 31, zetaCoefficient");
         for (int k = 0; k <= 12; k++) {
@@ -112,6 +134,7 @@ final class PolynomialTests {
             c.due("taylorAtOne(" + k + ") without edges", new IharaZeta().taylorAtOne(k), k == 0 ? 1 : 0);
         }
         c.due("taylorAtOne(0) is the value", Graphs.complete().taylorAtOne(0), Graphs.complete().edgeValue(1));
+        c.due("taylorAtOne(17) of nine edges", Graphs.bundle().taylorAtOne(17), -64 * 18);
         c.due("taylorAtOne(18) of nine edges", Graphs.bundle().taylorAtOne(18), -64);
         // Hashimoto: the first coefficient is +-2^rank (rank - 1) times the spanning trees
         c.due("taylorAtOne(3) of K4", Graphs.complete().taylorAtOne(3), 8 * 2 * 16);

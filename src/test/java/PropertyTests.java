@@ -109,6 +109,11 @@ final class PropertyTests {
         c.due("two parallel edges", Graphs.read(2, "0-1;1~0;").isBalanced(), 0);
         c.due("one part is not", Graphs.read(6, "0~1;1~2;2-0;3-4;4-5;5~3;").isBalanced(), 0);
         c.due("all parts are", Graphs.read(6, "0~1;1~2;2-0;3-4;4~5;5~3;").isBalanced(), 1);
+        c.due("nine edges", Graphs.bundle().isBalanced(), 1);
+        c.due("nine edges, the last one -1", Graphs.read(2, "0-1;0-1;0-1;0-1;0-1;0-1;0-1;0-1;0~1;").isBalanced(), 0);
+        IharaZeta less = Graphs.read(2, "0-1;0-1;0~1;");
+        less.removeEdge(2);
+        c.due("the only -1 is removed", less.isBalanced(), 1);
         c.due("groups united late", Graphs.read(4, "0~1;2~3;1~2;3~0;").isBalanced(), 1);
         c.due("groups united late", Graphs.read(4, "0~1;2~3;1-2;3~0;").isBalanced(), 0);
         c.due("groups united late", Graphs.read(4, "0~1;2-3;2~1;3-0;").isBalanced(), 1);

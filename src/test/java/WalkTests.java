@@ -75,6 +75,8 @@ final class WalkTests {
         c.due("primes(6)", theta.primes(6), 20);
         c.due("primes(1)", theta.primes(1), 0);
         c.due("primes(2) of nine edges", Graphs.bundle().primes(2), 72);
+        c.due("primes(18)", theta.primes(18), 29120);
+        c.due("primes(18) of nine edges", Graphs.bundle().primes(18), 2001599834357760L);
         c.due("primes(18) without edges", new IharaZeta().primes(18), 0);
     }
 
@@ -89,6 +91,8 @@ final class WalkTests {
         c.due("positivePrimes(2)", theta.positivePrimes(2), 2);
         c.due("positivePrimes(4)", theta.positivePrimes(4), 2);
         c.due("primes(4)", theta.primes(4), 6);
+        c.due("positivePrimes(6): three times a negative one is negative", theta.positivePrimes(6), 12);
+        c.due("positivePrimes(18)", theta.positivePrimes(18), 14504);
     }
 
     private static void girth(Checks c) {
