@@ -11,6 +11,12 @@ public final class AllTests {
         PropertyTests.run(c);
         WalkTests.run(c);
         PolynomialTests.run(c);
+        GraphBoundaries.run(c);
+        TextBoundaries.run(c);
+        UndoBoundaries.run(c);
+        WalkBoundaries.run(c);
+        PolynomialBoundaries.run(c);
+        RefusalTests.run(c);
         RandomRuns.run(c);
         RoomTests.run(c);
         LanguageTests.run(c, arguments[0]);

@@ -12,6 +12,18 @@ final class Graphs {
         return x;
     }
 
+    /** The same, but no graph is saved: eight others push the saved ones out and are undone. */
+    static IharaZeta readUnsaved(int n, String text) {
+        IharaZeta x = read(n, text);
+        for (int round = 0; round < 8; round++) {
+            x.configure(1);
+        }
+        for (int round = 0; round < 8; round++) {
+            x.undo();
+        }
+        return x;
+    }
+
     static void write(IharaZeta x, String text) {
         for (int i = 0; i < text.length(); i++) {
             x.appendCharacter(text.charAt(i));
@@ -50,5 +62,4 @@ final class Graphs {
         }
         return all.append(' ').append(x.isBalanced()).toString();
     }
-
 }
