@@ -1,4 +1,4 @@
-/** Runs every test of the project; the argument is the file of the program. */
+/** Runs every test of the project; the arguments are the file of the program and README.md. */
 public final class AllTests {
     private AllTests() {
     }
@@ -20,6 +20,7 @@ public final class AllTests {
         RandomRuns.run(c);
         RoomTests.run(c);
         LanguageTests.run(c, arguments[0]);
+        ReadmeTests.run(c, arguments[1]);
         System.out.println("project: " + c.passed() + " passed, " + c.failed() + " failed");
         System.exit(c.failed() == 0 ? 0 : 1);
     }
